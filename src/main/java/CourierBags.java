@@ -65,7 +65,9 @@ public final class CourierBags {
 
     public int pack(int item, int bag) throws NoSuchElementException, IndexOutOfBoundsException,
             IllegalStateException, UnsupportedOperationException {
-        raise(loadFaultKeepingRefusal(item, bag));
+        Fault fault = cargo.loadFault(item, bag);
+        keepRefusal(fault, item, bag);
+        raise(fault);
         history.push(cargo);
         return cargo.load(item, bag);
     }
@@ -392,13 +394,11 @@ public final class CourierBags {
         }
     }
 
-    private Fault loadFaultKeepingRefusal(int item, int bag) {
-        Fault fault = cargo.loadFault(item, bag);
+    private void keepRefusal(Fault fault, int item, int bag) {
         if (fault == Fault.REFUSED) {
             lastReason = cargo.refusal(cargo.find(item), bag);
             lastRefused = item;
         }
-        return fault;
     }
 
     /** Stops at the first command that fails, and returns how many were run. */
@@ -406,7 +406,10 @@ public final class CourierBags {
         script.rewind();
         for (int done = 0; done < commands; done++) {
             script.readCommand();
-            if (commandFault() != Fault.NONE) {
+            Fault fault = commandFault();
+            if (fault != Fault.NONE) {
+                // Only a pack command can be refused: its numbers are the item and the bag.
+                keepRefusal(fault, script.number(0), script.number(1));
                 return done;
             }
             runCommand();
@@ -425,7 +428,7 @@ public final class CourierBags {
             case DROP:
                 return cargo.dropFault(first);
             case PACK:
-                return loadFaultKeepingRefusal(first, script.number(1));
+                return cargo.loadFault(first, script.number(1));
             case UNPACK:
                 return cargo.unloadFault(first);
             case FILL:
@@ -831,13 +834,13 @@ public final class CourierBags {
         }
 
         int limit(int bag) {
-            return hasBag(bag) ? limits[bag] : 0;
+            return bag >= 0 && bag < limits.length ? limits[bag] : 0;
         }
 
         int sumOfLimits() {
             int sum = 0;
             for (int bag = 0; bag < openBags; bag++) {
-                sum += limits[bag];
+                sum += limit(bag);
             }
             return sum;
         }
