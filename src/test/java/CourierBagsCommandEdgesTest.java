@@ -479,6 +479,7 @@ public final class CourierBagsCommandEdgesTest extends DocumentTest {
             x.restore();
             is("2 13 11", x.deliveredCount() + " " + x.deliveredWeight() + " " + x.itemCount());
             unchanged(States::full, CourierBags::save, "snapshot");
+            limitsOfTheSnapshot();
             CourierBags empty = new CourierBags();
             is(0, empty.save());
             empty.addBag(1);
@@ -489,6 +490,20 @@ public final class CourierBagsCommandEdgesTest extends DocumentTest {
         sentence("Returns the number of items.", () -> {
             is("0 12 4", States.empty().save() + " " + States.full().save() + " " + small().save());
         });
+    }
+
+    /** Bags of other limits, made behind an undo, in the place of those that were saved. */
+    private static void limitsOfTheSnapshot() {
+        CourierBags x = States.withBags(1, 50, 99);
+        x.save();
+        for (int left = 2; left >= 0; left--) {
+            is(left, x.undo());
+        }
+        for (int limit : new int[] {4, 5, 6}) {
+            x.addBag(limit);
+        }
+        x.restore();
+        is("1 50 99", x.limitOf(0) + " " + x.limitOf(1) + " " + x.limitOf(2));
     }
 
     private static void restore() {

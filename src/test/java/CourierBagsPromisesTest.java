@@ -92,6 +92,10 @@ public final class CourierBagsPromisesTest {
     }
 
     private static void write(CourierBags x, String text) {
+        if (text.length() > 60) {
+            // An exception of type must not be taken for one of execute.
+            throw new AssertionError("too long for the buffer: " + text);
+        }
         for (int i = 0; i < text.length(); i++) {
             x.type(text.charAt(i));
         }
