@@ -50,14 +50,15 @@ public final class CourierBagsTermsTest extends DocumentTest {
         return x.pack(x.addItem(size, weight, stop, true), 0);
     }
 
-    /** Adds an item; its packing is refused for this reason, leaves all as it was, and canPack says so before. */
+    /** Adds an item; its packing is refused for this reason and leaves the layers alone, and canPack says so before. */
     private static void putRefused(int reason, CourierBags x, int size, int weight, int stop) {
         int item = plain(x, size, weight, stop);
-        String before = States.state(x);
+        String before = States.layers(x);
         is(false, x.canPack(item, 0));
         throwing(REFUSED, () -> x.pack(item, 0));
         is(reason + " " + item, States.refusal(x));
-        is(before, States.state(x));
+        is(before, States.layers(x));
+        is(false, x.isPacked(item));
         x.removeItem(item);
     }
 
@@ -97,20 +98,18 @@ public final class CourierBagsTermsTest extends DocumentTest {
         });
         sentence("Each has a size from 1 to 10, a weight from 1 to 20, and a stop from 1 to 30, and is fragile or not.",
                 () -> {
-                    CourierBags x = new CourierBags();
                     for (int size = -1; size <= 12; size++) {
                         for (int weight : new int[] {0, 1, 20, 21}) {
                             for (int stop : new int[] {0, 1, 30, 31}) {
-                                takesInWithin(x, size, weight, stop);
+                                takesInWithin(size, weight, stop);
                             }
                         }
                     }
-                    takesInWithin(x, MOST, 1, 1);
-                    takesInWithin(x, 1, MOST, 1);
-                    takesInWithin(x, 1, 1, MOST);
-                    takesInWithin(x, LEAST, 1, 1);
-                    takesInWithin(x, 1, LEAST, 1);
-                    takesInWithin(x, 1, 1, LEAST);
+                    for (int far : new int[] {LEAST, MOST}) {
+                        takesInWithin(far, 1, 1);
+                        takesInWithin(1, far, 1);
+                        takesInWithin(1, 1, far);
+                    }
                 });
         sentence("Items have ids: the first one that is added has the id 0, and every further one has the id of the "
                 + "item added before it plus 1.", () -> {
@@ -150,13 +149,13 @@ public final class CourierBagsTermsTest extends DocumentTest {
         });
     }
 
-    private static void takesInWithin(CourierBags x, int size, int weight, int stop) {
+    private static void takesInWithin(int size, int weight, int stop) {
         boolean isWithin = size >= 1 && size <= 10 && weight >= 1 && weight <= 20 && stop >= 1 && stop <= 30;
         for (boolean fragile : new boolean[] {false, true}) {
+            CourierBags x = new CourierBags();
             if (isWithin) {
-                int id = x.addItem(size, weight, stop, fragile);
-                is(size + " " + weight + " " + stop + (fragile ? "!" : ""), States.item(x, id));
-                x.removeItem(id);
+                is(0, x.addItem(size, weight, stop, fragile));
+                is(size + " " + weight + " " + stop + (fragile ? "!" : ""), States.item(x, 0));
             } else {
                 throwing(ARGUMENT, () -> x.addItem(size, weight, stop, fragile));
                 is(0, x.itemCount());
